@@ -61,6 +61,8 @@ public final class NamesTest {
         // an unbound use goes out beyond the text
         plans("+ab", 0, 'b', NONE, 2, 2);
         renamed("+ab", 0, 'b', 2, "+b^b");
+        plans("b+a", 1, 'b', NONE, 2, 2);
+        renamed("b+a", 1, 'b', 2, "^b+b");
         plans("+a{{b}}", 0, 'b', NONE, 4, 4);
         renamed("+a{{b}}", 0, 'b', 4, "+b{{^^^b}}");
         // four out would be needed
@@ -90,6 +92,7 @@ public final class NamesTest {
         // the least name that the text has nowhere, as it was ahead
         renamed("+c+a", 0, 'a', 2, "+a+b");
         renamed("+b+a{c}", 0, 'a', 2, "+a+d{c}");
+        renamed("+c+b", 0, 'b', 2, "+b+a");
     }
 
     private static void pushedToNoName() {
@@ -117,9 +120,13 @@ public final class NamesTest {
     private static void tooLong() {
         String ninetySix = "{}".repeat(8) + "{" + "^^^c".repeat(19) + "}" + "+a";
         check.due("bytes", ninetySix.length(), 96);
-        plans(ninetySix + "bbb", 0 + 19, 'b', NONE, NONE, NONE);
+        plans(ninetySix + "bbb", 19, 'b', NONE, NONE, NONE);
         plans(ninetySix + "bb", 19, 'b', NONE, 3, 3);
         plans(ninetySix + "^bbb", 19, 'b', NONE, NONE, NONE);
+        // the first node counts as the others
+        plans("b" + ninetySix + "bbb", 20, 'b', NONE, NONE, NONE);
+        plans("b" + ninetySix + "b", 20, 'b', NONE, 3, 3);
+        plans("b" + ninetySix + "cb", 20, 'b', NONE, NONE, NONE);
         RenameGraph x = Check.of(ninetySix + "bb");
         check.due("rename to 100 bytes", x.rename(19, 'b'), 3);
         check.due("count(0)", x.count(0), 100);
@@ -248,19 +255,20 @@ public final class NamesTest {
 
     private static void forgetting() {
         RenameGraph x = Check.of("+ab");
-        x.rename(0, 'c');
+        check.due("rename(0, c)", x.rename(0, 'c'), 1);
         x.type('d');
         check.due("count(7) behind type", x.count(7), 0);
         check.due("back() behind type", x.back(), NOT);
-        x.rename(0, 'd');
+        check.due("rename(0, e)", x.rename(0, 'e'), 1);
         x.undo();
         check.due("count(7) behind undo", x.count(7), 0);
-        x.rename(0, 'e');
+        check.due("rename(0, f)", x.rename(0, 'f'), 1);
         x.sheet(0, 0, 1);
-        x.read(0);
+        check.due("read of one byte", x.read(0), 1);
         check.due("count(7) behind read", x.count(7), 0);
         x.undo();
-        x.rename(0, 'f');
+        check.due("rename(0, g)", x.rename(0, 'g'), 1);
+        check.due("text", Check.textOf(x), "+gb");
         x.wipe();
         check.due("count(7) behind wipe", x.count(7), 0);
         check.due("back() behind wipe", x.back(), NOT);

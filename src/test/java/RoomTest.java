@@ -10,6 +10,7 @@ public final class RoomTest {
         long self = Thread.currentThread().getId();
         RenameGraph x = new RenameGraph();
         use(x);
+        check.due("the text that is used has no fault", told(x), RenameGraph.NONE);
         long before = room.getThreadAllocatedBytes(self);
         long idle = room.getThreadAllocatedBytes(self) - before;
         before = room.getThreadAllocatedBytes(self);
@@ -26,19 +27,32 @@ public final class RoomTest {
         check.end();
     }
 
-    /** Each call of the face, on a text of sixty nodes and ten scopes. */
-    private static long use(RenameGraph x) {
-        long sum = x.wipe();
+    /** Tells a text of 49 nodes and ten scopes, and answers its fault. */
+    private static int told(RenameGraph x) {
+        x.wipe();
         for (int k = 0; k < 9; k++) {
-            sum += x.type('{') + x.type('+') + x.type('a' + k) + x.type('a') + x.type('b') + x.type('c');
+            x.type('{');
+            x.type('+');
+            x.type('a' + k);
+            x.type('a');
+            x.type('b');
+            x.type('c');
         }
         for (int k = 0; k < 9; k++) {
-            sum += x.type('}');
+            x.type('}');
         }
         for (int k = 0; k < 12; k++) {
-            sum += x.type('+') + x.type('c' + k);
+            x.type('+');
+            x.type('c' + k);
         }
-        sum += x.type('^') + x.type('d') + x.type('e') + x.undo() + x.fault() + x.shown(3);
+        x.type('^');
+        x.type('d');
+        return x.fault();
+    }
+
+    /** Each call of the face. */
+    private static long use(RenameGraph x) {
+        long sum = told(x) + x.type('e') + x.undo() + x.shown(3);
         sum += x.sheet(0, 2, 60) + x.sheet(1, 2, 60) + x.put(0, 2, 3, 4) + x.get(0, 2, 3) + x.copy(0, 1, 1, 2, 3);
         sum += x.write(0) + x.node(3, 4) + x.scope(1, 2) + x.bound(1) + x.own(3, 'a') + x.family(0) + x.uses(0);
         sum += x.hides(4) + x.idle() + x.plan(0, 'b', 0) + x.edits(0, 'c', 2) + x.caught(0, 'b', 0) + x.easy(0);
