@@ -16,6 +16,7 @@ public final class NamesTest {
         caughtOnes();
         easyNames();
         renaming();
+        sixtyNodes();
         takingBack();
         forgetting();
         keeping();
@@ -233,6 +234,20 @@ public final class NamesTest {
         check.due("count(7)", x.count(7), 3);
         // outs are changed by as many as are wanting
         renamed("+a{{^^b}}", 0, 'b', 2, "+b{{^^^b}}");
+    }
+
+    private static void sixtyNodes() {
+        String sixty = "a".repeat(30) + "+b{+a" + "c".repeat(27) + "b}";
+        check.due("nodes", Check.of(sixty).count(1), 60);
+        plans(sixty, 30, 'a', NONE, 33, 33);
+        caught(sixty, 30, 'a', 0, 30);
+        caught(sixty, 31, 'b', 59, 31);
+        renamed(sixty, 30, 'a', 33, "^a".repeat(30) + "+a{+a" + "c".repeat(27) + "^a}");
+        plans("a".repeat(57) + "+b{+ab}", 57, 'a', NONE, NONE, NONE);
+        renamed("a".repeat(59) + "+a", 59, 'b', 60, "b".repeat(59) + "+b");
+        String shorter = "a".repeat(34) + "+b" + "{+a" + "b".repeat(24) + "}";
+        check.due("nodes", Check.of(shorter).count(1), 60);
+        plans(shorter, 34, 'a', NONE, NONE, 60);
     }
 
     private static void takingBack() {

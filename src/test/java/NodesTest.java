@@ -86,6 +86,7 @@ public final class NodesTest {
         bound("+a{+a^a}", 0, 1, 0);
         bound("+a{+a{+aa^a^^a^^^a}}", 0, 1, 2, 2, 1, 0, NONE);
         bound("+a{{{^a^^a^^^a}}}", 0, 0, 0, 0);
+        bound("+a{{{{{{{{{a^^^a}}}}}}}}}", 0, 0, 0);
         bound("{+a}{<1^a}", 0, NONE);
         bound("{+a}{<1{^a}}", 0, 0);
     }
@@ -167,6 +168,7 @@ public final class NodesTest {
         check.due("family(59)", x.family(59), 1L << 59);
         check.due("node(59, 4)", x.node(59, 4), 60);
         check.due("idle()", x.idle(), 0);
+        check.due("digest() twice", x.digest(), x.digest());
         x.undo();
         x.type('b');
         check.due("idle() of 59", x.idle(), 1L << 59);
