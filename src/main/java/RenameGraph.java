@@ -39,7 +39,7 @@ public final class RenameGraph {
     // ---- the text
 
     public int type(int b) {
-        if (b < 0 || b > 255) {
+        if (!isByte(b)) {
             return BAD;
         }
         if (text.size >= MAX_BYTES) {
@@ -78,9 +78,9 @@ public final class RenameGraph {
         if (from.lost) {
             return found(NULL);
         }
-        int told = Math.min(from.size, MAX_BYTES - text.size);
+        int told = Math.min(from.bytesAtFront(), MAX_BYTES - text.size);
         for (int k = 0; k < told; k++) {
-            text.append(from.items[k] & 255);
+            text.append(from.items[k]);
         }
         // where no byte came, what is known of renamings stays known
         if (told > 0) {
@@ -381,6 +381,10 @@ public final class RenameGraph {
 
     private boolean isScope(int s) {
         return s >= 0 && s < tree.scopes;
+    }
+
+    private static boolean isByte(int b) {
+        return b >= 0 && b <= 255;
     }
 
     private static boolean isLetter(int b) {
@@ -1014,6 +1018,15 @@ public final class RenameGraph {
                     items[i] = v;
                     break;
             }
+        }
+
+        /** How many items, from the first on, are bytes: one that is none lets no later one come. */
+        int bytesAtFront() {
+            int n = 0;
+            while (n < size && isByte(items[n])) {
+                n++;
+            }
+            return n;
         }
 
         boolean hasRun(int from, int n) {

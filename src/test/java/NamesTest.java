@@ -304,6 +304,10 @@ public final class NamesTest {
         y.sheet(0, 0, 0);
         check.due("read of no items", y.read(0), 0);
         check.due("read of a lost one", y.read(1), -11);
+        y.sheet(0, 1, 2);
+        y.put(0, 1, 0, -1);
+        check.due("read of no byte", y.read(0), 0);
+        check.due("count(7) behind no byte", y.count(7), 1);
         check.due("back()", y.back(), 0);
     }
 

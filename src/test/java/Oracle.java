@@ -374,10 +374,10 @@ final class Oracle {
         }
         int n = 0;
         for (int v : rows[s]) {
-            if (text.length() < 100) {
-                type(v & 255);
-                n++;
+            if (type(v) < 0) {
+                break;
             }
+            n++;
         }
         return n;
     }

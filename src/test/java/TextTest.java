@@ -166,8 +166,8 @@ public final class TextTest {
         RenameGraph x = Check.of("+b");
         x.sheet(2, 2, 3);
         x.put(2, 2, 0, '+');
-        x.put(2, 2, 1, 256 + 'a');
-        x.put(2, 2, 2, -1);
+        x.put(2, 2, 1, 'a');
+        x.put(2, 2, 2, 255);
         check.due("read(2)", x.read(2), 3);
         check.due("text", Check.textOf(x), "+b+a\u00ff");
         check.due("read(-1)", x.read(-1), RenameGraph.BAD);
@@ -176,7 +176,9 @@ public final class TextTest {
         check.due("read(3)", x.read(3), -11);
         check.due("count(8)", x.count(8), 1);
         readingAtTheEnd();
-        readingBytes();
+        readingNoBytes();
+        readingUpToNoByte();
+        readingOfEachForm();
     }
 
     private static void readingAtTheEnd() {
@@ -193,13 +195,62 @@ public final class TextTest {
         check.due("read(1) of no items", x.read(1), 0);
     }
 
-    private static void readingBytes() {
-        RenameGraph x = new RenameGraph();
-        x.sheet(0, 0, 1);
-        x.put(0, 0, 0, 200);
-        check.due("get(0, 0, 0)", x.get(0, 0, 0), -56);
-        x.read(0);
-        check.due("shown(0) of 200 in a byte", x.shown(0), 200);
+    /** An item as its form holds it: it comes if it is 0 to 255, and is no other byte then. */
+    private static void readingNoBytes() {
+        int[] values = {
+            0, 1, 'a', 127, 128, 200, 255, 256, 256 + 'a', 511, -1, -56, -128, -129, -256, -256 + 'a',
+            32767, 32768, 65535, 65536, 65536 + 'a', Integer.MAX_VALUE, Integer.MIN_VALUE, Integer.MIN_VALUE + 'a',
+        };
+        for (int form = 0; form < 3; form++) {
+            for (int v : values) {
+                RenameGraph x = new RenameGraph();
+                x.sheet(0, form, 1);
+                x.put(0, form, 0, v);
+                int held = form == 0 ? (byte) v : form == 1 ? (short) v : v;
+                boolean comes = held >= 0 && held <= 255;
+                String what = " of " + v + " in form " + form;
+                check.due("read(0)" + what, x.read(0), comes ? 1 : 0);
+                check.due("count(0)" + what, x.count(0), comes ? 1 : 0);
+                check.due("shown(0)" + what, x.shown(0), comes ? held : RenameGraph.NONE);
+                check.due("count(8)" + what, x.count(8), 0);
+                check.due("get" + what, x.get(0, form, 0), held);
+            }
+        }
+    }
+
+    /** With the first item that is no byte it ends, though bytes stand behind that. */
+    private static void readingUpToNoByte() {
+        for (int form = 0; form < 3; form++) {
+            for (int at = 0; at < 5; at++) {
+                RenameGraph x = Check.of("z");
+                x.sheet(1, form, 5);
+                for (int k = 0; k < 5; k++) {
+                    x.put(1, form, k, k == at ? -1 : 'a' + k);
+                }
+                check.due("read(1) up to item " + at, x.read(1), at);
+                check.due("text", Check.textOf(x), "z" + "abcde".substring(0, at));
+                check.due("read(1) once more", x.read(1), at);
+            }
+        }
+    }
+
+    private static void readingOfEachForm() {
+        for (int form = 0; form < 3; form++) {
+            RenameGraph x = Check.of("{}".repeat(9) + "^^^a".repeat(20));
+            x.sheet(3, form, 4);
+            for (int k = 0; k < 4; k++) {
+                x.put(3, form, k, "+bcd".charAt(k));
+            }
+            check.due("read(3), room for two", x.read(3), 2);
+            check.due("shown(99)", x.shown(99), 'b');
+            check.due("fault()", x.fault(), RenameGraph.NONE);
+            check.due("count(3)", x.count(3), 1);
+            x.put(3, form, 0, -1);
+            check.due("read(3) of no byte when full", x.read(3), 0);
+            x.undo();
+            check.due("read(3) of no byte, room for one", x.read(3), 0);
+            check.due("count(0)", x.count(0), 99);
+        }
     }
 
     private static void showing() {
