@@ -19,6 +19,7 @@ public final class NamesEdgesTest {
         boundAsBefore();
         plainJustSo();
         leastOutsThatWillDo();
+        eachUseInOrder();
         outsAtMostThree();
         outsTakenAway();
         pushesAllOfTheName();
@@ -153,6 +154,25 @@ public final class NamesEdgesTest {
         renamed("+a{{^^b}}", 0, 'b', "+b{{^^^b}}");
         // of several uses each by itself
         renamed("+ab{b{b}}", 0, 'b', "+b^b{^^b{^^^b}}");
+    }
+
+    private static void eachUseInOrder() {
+        check.sentence("of each USE that is not BOUND as before, in order (the first node, and the last)");
+        plans("b+a", 1, 'b', NONE, 2, 2);
+        renamed("b+a", 1, 'b', "^b+b");
+        plans("+ab", 0, 'b', NONE, 2, 2);
+        renamed("+ab", 0, 'b', "+b^b");
+        String first = "b" + "c".repeat(58) + "+a";
+        plans(first, 59, 'b', NONE, 2, 2);
+        renamed(first, 59, 'b', "^b" + "c".repeat(58) + "+b");
+        String last = "+a" + "c".repeat(58) + "b";
+        plans(last, 0, 'b', NONE, 2, 2);
+        renamed(last, 0, 'b', "+b" + "c".repeat(58) + "^b");
+        // in a text that would be above 100 bytes by the first, or by the last
+        plans("b+a" + fill(96), 1, 'b', NONE, 2, 2);
+        plans("b+a" + fill(97), 1, 'b', NONE, NONE, NONE);
+        plans("+a" + fill(96) + "b", 0, 'b', NONE, 2, 2);
+        plans("+a" + fill(97) + "b", 0, 'b', NONE, NONE, NONE);
     }
 
     private static void outsAtMostThree() {

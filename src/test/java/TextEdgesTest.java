@@ -31,6 +31,7 @@ public final class TextEdgesTest {
         faultThatIsNone();
         asIfEmpty();
         noLongerEmpty();
+        toldAnew();
         readsAsManyAsMay();
         readsUpToTheEnd();
         readsNoneAtAll();
@@ -503,6 +504,30 @@ public final class TextEdgesTest {
         x.undo();
         check.due("count(1) without it", x.count(1), 2);
         check.due("count(2)", x.count(2), 2);
+    }
+
+    private static void toldAnew() {
+        check.sentence("THE TEXT is empty (and a new one has nothing of it)");
+        String[] texts = {
+            "", "{}", "{}{}{}", "{{<1}}", "{}{{<2}}", "{", "{{", "+", "+a", "+a+a", "^^^", "^^^^", "aa", "{<", "{}{<",
+            "{}{<1+a}", "{+a+b}{<1+b}", "+a{+b{+c^^a}}", "}", "a".repeat(60), "a".repeat(61), "{}".repeat(10),
+        };
+        for (String ahead : texts) {
+            for (String text : texts) {
+                RenameGraph x = Check.of(ahead);
+                x.wipe();
+                Check.tell(x, text);
+                RenameGraph y = Check.of(ahead);
+                while (y.undo() > 0) {
+                    y.fault();
+                }
+                Check.tell(y, text);
+                RenameGraph due = Check.of(text);
+                check.due("fault() of '" + text + "' behind '" + ahead + "'", x.fault(), due.fault());
+                check.due("digest() of '" + text + "' behind '" + ahead + "'", x.digest(), due.digest());
+                check.due("digest() of '" + text + "' behind '" + ahead + "' undone", y.digest(), due.digest());
+            }
+        }
     }
 
     // ---- promise 6
