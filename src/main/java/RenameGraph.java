@@ -13,6 +13,8 @@ public final class RenameGraph {
     private static final int MAX_KNOWN = 20, LETTERS = 26;
     private static final int SHEETS = 4, FORMS = 3, MAX_ITEMS = 60;
     private static final int PLAIN = 0, PUSHED = 2, PLANS = 3;
+    private static final int LEAST_INT = 1 << 31;
+    private static final long LEAST_LONG = 1L << 63;
     private static final int DIGEST_BYTES = 40;
     private static final int[] DIGEST_NAMES = {'a', 'c', 'x'};
 
@@ -252,7 +254,7 @@ public final class RenameGraph {
 
     public int get(int s, int form, int i) {
         int refusal = refusalOfItem(s, form, i);
-        return refusal != 0 ? Integer.MIN_VALUE : sheets[s].items[i];
+        return refusal != 0 ? LEAST_INT : sheets[s].items[i];
     }
 
     public int copy(int s, int i, int t, int j, int n) {
@@ -372,7 +374,7 @@ public final class RenameGraph {
     }
 
     private static long asLong(int refusal) {
-        return Long.MIN_VALUE - refusal;
+        return LEAST_LONG - refusal;
     }
 
     private boolean isNode(int i) {

@@ -7,7 +7,9 @@ import java.nio.file.Files;
 import java.nio.file.Path;
 import java.util.ArrayList;
 import java.util.List;
+import java.util.Map;
 import java.util.Set;
+import java.util.TreeMap;
 import java.util.TreeSet;
 import java.util.regex.Matcher;
 import java.util.regex.Pattern;
@@ -124,22 +126,57 @@ public final class FaceTest {
                 check.holds("sign " + (int) c + " at " + k, false);
             }
         }
+        library(code);
         methodLengths(code);
+    }
+
+    /** Rule 4: of the library's classes only functions that it lists, so none of their constants. */
+    private static void library(String code) {
+        Set<String> listed = Set.of(
+            "Math.min", "Math.max", "Math.abs", "Math.floorDiv", "Math.floorMod", "Integer.compare", "Long.compare",
+            "Integer.bitCount", "Long.bitCount", "Arrays.copyOf", "Arrays.copyOfRange", "Arrays.fill",
+            "System.arraycopy");
+        Matcher m = Pattern.compile("\\b(Math|Integer|Long|Arrays|System|Short|Byte|Character)\\.(\\w+)(\\()?").matcher(code);
+        int seen = 0;
+        while (m.find()) {
+            String name = m.group(1) + "." + m.group(2);
+            check.holds(name + " is a function that the rules list", listed.contains(name) && m.group(3) != null);
+            seen++;
+        }
+        check.holds("the library is seen", seen > 0);
     }
 
     /** A method begins with a line that ends with ') {' at the depth of a class's members. */
     private static void methodLengths(String code) {
         Pattern head = Pattern.compile("(?m)^( {4}| {8})(\\w[^=;\n]*\\) )\\{\n");
         Matcher m = head.matcher(code);
-        int seen = 0;
+        Map<String, String> bodies = new TreeMap<>();
         while (m.find()) {
             if (!m.group(2).matches("(if|for|while|switch|else)\\b.*")) {
-                seen++;
                 int end = code.indexOf("\n" + m.group(1) + "}", m.end());
-                long lines = end < 0 ? 999 : code.substring(m.end(), end + 1).lines().count();
+                String body = end < 0 ? "\n".repeat(999) : code.substring(m.end(), end + 1);
+                long lines = body.lines().count();
                 check.holds(m.group(2) + " has at most sixty lines: " + lines, lines <= 60);
+                String name = m.group(2).replaceAll("\\(.*", "").replaceAll(".* ", "").strip();
+                check.holds(name + " is the name of one method alone", bodies.put(name, body) == null);
             }
         }
-        check.holds("methods are seen", seen > 60);
+        check.holds("methods are seen", bodies.size() > 60);
+        for (String name : bodies.keySet()) {
+            int deep = depth(name, bodies, 0);
+            check.holds(name + " goes at most eight deep: " + deep, deep <= 8);
+        }
+    }
+
+    /** How many calls stand open at most, its own counted; of a recursion, far too many. */
+    private static int depth(String name, Map<String, String> bodies, int open) {
+        int most = 0;
+        Matcher m = Pattern.compile("\\b(\\w+)\\(").matcher(bodies.get(name));
+        while (m.find() && open < 20) {
+            if (bodies.containsKey(m.group(1))) {
+                most = Math.max(most, depth(m.group(1), bodies, open + 1));
+            }
+        }
+        return most + 1;
     }
 }
